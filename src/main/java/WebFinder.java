@@ -271,7 +271,7 @@ public final class WebFinder {
 
     public int ask(int mode) {
         int hits = NONE;
-        if (mode >= 0 && mode < Answers.MODES) {
+        if (mode >= Answers.ANY && mode <= Answers.ROW) {
             answers.answer(tape, mode, documents);
             hits = answers.size;
         }
@@ -1371,8 +1371,10 @@ public final class WebFinder {
 
         private void letRest() {
             int last = crashClock;
+            // With the / behind the site, so that a site that only begins with this one is another.
+            int length = siteTo(here.data, 0, here.length) + 1;
             for (int i = 0; i < addresses.size; i++) {
-                if (askedAt[i] > last && isOnSiteHere(i)) {
+                if (askedAt[i] > last && beginsAsHere(i, length)) {
                     last = askedAt[i];
                 }
             }
@@ -1381,10 +1383,8 @@ public final class WebFinder {
             }
         }
 
-        private boolean isOnSiteHere(int i) {
+        private boolean beginsAsHere(int i, int length) {
             int from = addresses.from(i);
-            int length = siteTo(here.data, 0, here.length) + 1;
-            // With the / behind the site, so that a site that only begins with this one is another.
             return addresses.to(i) - from >= length && sameBytes(addresses.bytes.data, from, here.data, 0, length);
         }
 
@@ -1589,7 +1589,6 @@ public final class WebFinder {
         static final int ANY = 0;
         static final int ALL = 1;
         static final int ROW = 2;
-        static final int MODES = 3;
 
         int size;
         final int[] hits = new int[MOST_KNOWN];

@@ -15,6 +15,7 @@ public final class PagesTest {
         manyLinks();
         words();
         refusals();
+        cutAnywhere();
         DUE.end("PagesTest");
     }
 
@@ -155,6 +156,8 @@ public final class PagesTest {
         words("&#x0000061;", "x0000061,");
         words("&#;&#x;&#X;&#xg;&#9a;", "x,x,xg,9a,");
         words("a&#31;b&#127;c&#32;d&#999999;e&#xffffff;f", "a,b,c,d,e,f,");
+        words("a&#321;b&#x161;c&#0;d", "a,b,c,d,");
+        links("<a href='x&#31;'><a href='y&#127;'><a href='z&#288;'><a href='&#126;'>", "~x,~y,~z,~~,");
         words("&amp;lt;", "lt,");
         words("&#38;#97;", "97,");
         words("&#60;b&#62;", "b,");
@@ -221,5 +224,26 @@ public final class PagesTest {
         Due.tape(x, "http://h/\na b");
         DUE.is("words", x.look(1), 2);
         DUE.is("a 10 behind each", Due.product(x), "a\nb\n");
+    }
+
+    /** A text may end within anything; a crawl has it without a byte behind its end. */
+    private static void cutAnywhere() {
+        String text = "a&amp;b&#x41;<!-- c --><!d></e f='g'><a href = \"h&lt;\" i=j/k>l<script m>n</script >o<base href='p'><?q>&#9;<a r";
+        for (int length = 0; length <= text.length(); length++) {
+            String cut = text.substring(0, length);
+            WebFinder x = new WebFinder();
+            Due.page(x, 200, "http://a/", cut);
+            Due.page(x, 301, "http://b/", cut);
+            Due.rules(x, "http://c/", cut);
+            Due.seed(x, "http://a/");
+            Due.seed(x, "http://b/");
+            x.start();
+            x.run(9);
+            DUE.is("find with " + cut, x.find(1), 1);
+            Due.tape(x, "http://a/\n" + cut);
+            DUE.is("words of " + cut, x.document(0, 5), x.look(1));
+            Due.tape(x, "http://a/\n" + cut);
+            DUE.is("links of " + cut, x.look(0), Model.links("http://a/", cut).size());
+        }
     }
 }
