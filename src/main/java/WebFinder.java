@@ -420,8 +420,8 @@ public final class WebFinder {
         return stop <= to && isLower(text, from, stop, lowerBeginning);
     }
 
-    private static int siteTo(byte[] address, int from, int to) {
-        return indexOf(address, '/', from + SCHEME.length(), to);
+    private static int siteTo(byte[] address, int to) {
+        return indexOf(address, '/', SCHEME.length(), to);
     }
 
     /** A row of bytes that grows, and is used again rather than made again. */
@@ -678,14 +678,14 @@ public final class WebFinder {
             if (base == null || base.length == 0) {
                 return NONE;
             }
-            int siteTo = siteTo(base.data, 0, base.length);
-            int basePathTo = indexOf(base.data, '?', siteTo, base.length);
-            result.putAll(base.data, 0, siteTo);
+            int siteEnd = siteTo(base.data, base.length);
+            int basePathTo = indexOf(base.data, '?', siteEnd, base.length);
+            result.putAll(base.data, 0, siteEnd);
             int question = indexOf(text, '?', from, to);
             if (question == from) {
-                path.putAll(base.data, siteTo, question == to ? base.length : basePathTo);
+                path.putAll(base.data, siteEnd, question == to ? base.length : basePathTo);
             } else if (text[from] != '/') {
-                path.putAll(base.data, siteTo, behindLastSlash(base.data, siteTo, basePathTo));
+                path.putAll(base.data, siteEnd, behindLastSlash(base.data, siteEnd, basePathTo));
             }
             return from;
         }
@@ -699,7 +699,7 @@ public final class WebFinder {
         }
 
         private void foldPath() {
-            int siteTo = result.length;
+            int siteEnd = result.length;
             int pathTo = indexOf(path.data, '?', 0, path.length);
             boolean endsOpen = pathTo == 0;
             for (int from = 1; from <= pathTo; from++) {
@@ -708,7 +708,7 @@ public final class WebFinder {
                 boolean two = isLower(path.data, from, to, "..");
                 endsOpen = one || two;
                 if (two) {
-                    dropSegment(siteTo);
+                    dropSegment(siteEnd);
                 } else if (!one) {
                     result.put('/');
                     result.putAll(path.data, from, to);
@@ -721,9 +721,9 @@ public final class WebFinder {
             result.putAll(path.data, pathTo, path.length);
         }
 
-        private void dropSegment(int siteTo) {
-            int behindSlash = behindLastSlash(result.data, siteTo, result.length);
-            result.length = Math.max(siteTo, behindSlash - 1);
+        private void dropSegment(int siteEnd) {
+            int behindSlash = behindLastSlash(result.data, siteEnd, result.length);
+            result.length = Math.max(siteEnd, behindSlash - 1);
         }
     }
 
@@ -1129,7 +1129,7 @@ public final class WebFinder {
             int from = patterns.from(i);
             boolean toEnd = pattern[patterns.to(i) - 1] == '$';
             int to = toEnd ? patterns.to(i) - 1 : patterns.to(i);
-            int at = siteTo(address.data, 0, address.length);
+            int at = siteTo(address.data, address.length);
             int pieceTo = indexOf(pattern, '*', from, to);
             if (!standsAt(pattern, from, pieceTo, address, at)) {
                 return false;
@@ -1215,7 +1215,7 @@ public final class WebFinder {
 
         private int siteNumber(Bytes address) {
             int from = SCHEME.length();
-            int length = siteTo(address.data, 0, address.length) - from;
+            int length = siteTo(address.data, address.length) - from;
             for (int i = 0; i < siteCount; i++) {
                 Bytes site = sites[i].site;
                 if (site.length == length && sameBytes(site.data, 0, address.data, from, length)) {
@@ -1233,7 +1233,7 @@ public final class WebFinder {
             if (i == NONE) {
                 i = siteCount;
                 sites[i] = new SiteRules();
-                sites[i].site.putAll(address.data, SCHEME.length(), siteTo(address.data, 0, address.length));
+                sites[i].site.putAll(address.data, SCHEME.length(), siteTo(address.data, address.length));
                 siteCount++;
             }
             return sites[i].tell(tape.data, textFrom, tape.length);
@@ -1372,7 +1372,7 @@ public final class WebFinder {
         private void letRest() {
             int last = crashClock;
             // With the / behind the site, so that a site that only begins with this one is another.
-            int length = siteTo(here.data, 0, here.length) + 1;
+            int length = siteTo(here.data, here.length) + 1;
             for (int i = 0; i < addresses.size; i++) {
                 if (askedAt[i] > last && beginsAsHere(i, length)) {
                     last = askedAt[i];

@@ -7,6 +7,7 @@ import java.lang.management.ManagementFactory;
 public final class RoomTest {
     private static final Due DUE = new Due();
     private static final int CALLS = 512;
+    private static final String NAMES = "ABCDEFGHIJKLMNOPQRSTUVWXYZabcdefghijklmnopqrstuvwxyz01234567";
 
     public static void main(String[] args) {
         isSmall("calls one by one", RoomTest::calls);
@@ -71,7 +72,7 @@ public final class RoomTest {
         for (int page = 0; page < 5; page++) {
             StringBuilder text = new StringBuilder();
             for (int i = 0; i < 60; i++) {
-                text.append("<a href=").append((char) ('A' + page)).append((char) ('A' + i)).append('>');
+                text.append("<a href=").append(page).append(NAMES.charAt(i)).append('>');
             }
             Due.page(x, 200, folder + page, text.toString());
             Due.seed(x, folder + page);
