@@ -20,13 +20,13 @@ public final class AddressTest {
     }
 
     private static void reads(String reference, String want) {
-        DUE.is("read " + reference, Due.read(new WebFinder(), BASE, reference), want);
+        DUE.is("read " + reference, Due.read(new Finder(), BASE, reference), want);
     }
 
     private static void newObject() {
-        WebFinder x = new WebFinder();
+        Finder x = new Finder();
         DUE.is("made", x.made(), 0);
-        DUE.is("out", x.out(0), WebFinder.NONE);
+        DUE.is("out", x.out(0), Finder.NONE);
         DUE.is("end", x.end(0), 0);
         DUE.is("clock", x.clock(), -1);
         DUE.is("crash", x.crash(), false);
@@ -43,7 +43,7 @@ public final class AddressTest {
         DUE.is("score", x.score(0), -1L);
     }
 
-    private static boolean feedThrows(WebFinder x) {
+    private static boolean feedThrows(Finder x) {
         try {
             x.feed(1, 2, 3, 4, 5);
             return false;
@@ -52,7 +52,7 @@ public final class AddressTest {
         }
     }
 
-    private static boolean endThrows(WebFinder x, int n) {
+    private static boolean endThrows(Finder x, int n) {
         try {
             x.end(n);
             return false;
@@ -62,7 +62,7 @@ public final class AddressTest {
     }
 
     private static void feedAndEnd() {
-        WebFinder x = new WebFinder();
+        Finder x = new Finder();
         for (int i = 0; i < 400; i++) {
             DUE.is("feed " + i, feedThrows(x), false);
         }
@@ -80,7 +80,7 @@ public final class AddressTest {
     }
 
     private static void byteOrder() {
-        WebFinder x = new WebFinder();
+        Finder x = new Finder();
         x.feed(0x68747470, 0x3a2f2f61, 0x62636465, 0x66676869, 0x6a6b6c6d);
         x.feed(0x6e6f7071, 0x72737475, 0x76777879, 0x7a303132, 0x33343536);
         DUE.is("end", x.end(40), 40);
@@ -165,7 +165,7 @@ public final class AddressTest {
         reads("/x?y?z", "http://h/x?y?z");
         reads("x", "http://h/a/b/x");
         reads("x?", "http://h/a/b/x?");
-        WebFinder x = new WebFinder();
+        Finder x = new Finder();
         DUE.is("a / in the base's query", Due.read(x, "http://h/a/b?c/d", "e"), "http://h/a/e");
         DUE.is("host alone as base", Due.read(x, "http://h", "e"), "http://h/e");
         DUE.is("port of the base", Due.read(x, "http://h:9?x", "e"), "http://h:9/e");
@@ -209,7 +209,7 @@ public final class AddressTest {
     }
 
     private static void tapeAndProduct() {
-        WebFinder x = new WebFinder();
+        Finder x = new Finder();
         Due.read(x, BASE, "x");
         DUE.is("the tape is empty then", x.end(0), 0);
         DUE.is("out(14)", x.out(13), 'x');

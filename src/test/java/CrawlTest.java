@@ -26,21 +26,21 @@ public final class CrawlTest {
         return "<a href=" + String.join("><a href=", to) + ">";
     }
 
-    private static void isKnown(WebFinder x, int i, String address, int state, int depth, int chain) {
+    private static void isKnown(Finder x, int i, String address, int state, int depth, int chain) {
         DUE.is("address " + i, Due.address(x, i), address);
         DUE.is("state of " + address, x.known(i, 0), state);
         DUE.is("depth of " + address, x.known(i, 1), depth);
         DUE.is("chain of " + address, x.known(i, 2), chain);
     }
 
-    private static void asks(WebFinder x, int k, int clock, String address) {
+    private static void asks(Finder x, int k, int clock, String address) {
         DUE.is("clock of asking " + k, x.asking(k, 0), clock);
         DUE.is("length of asking " + k, x.asking(k, 1), address.length());
         DUE.is("address of asking " + k, Due.product(x), address);
     }
 
     private static void settings() {
-        WebFinder x = new WebFinder();
+        Finder x = new Finder();
         int[][] ranges = {{0, 20}, {0, 8}, {0, 1000}, {1, 50}};
         for (int i = 0; i < 4; i++) {
             DUE.is("least of " + i, x.set(i, ranges[i][0]), true);
@@ -50,7 +50,7 @@ public final class CrawlTest {
         }
         DUE.is("setting -1", x.set(-1, 1), false);
         DUE.is("setting 4", x.set(4, 1), false);
-        x = new WebFinder();
+        x = new Finder();
         Due.page(x, 200, "http://a/", links("b"));
         Due.page(x, 200, "http://a/b", links("c"));
         Due.seed(x, "http://a/");
@@ -67,7 +67,7 @@ public final class CrawlTest {
     }
 
     private static void seeds() {
-        WebFinder x = new WebFinder();
+        Finder x = new Finder();
         DUE.is("no bytes", x.seed(), -1);
         DUE.is("nothing", Due.seed(x, "a"), -1);
         DUE.is("two lines", Due.seed(x, "http://a/\nb"), -1);
@@ -90,7 +90,7 @@ public final class CrawlTest {
     }
 
     private static void starts() {
-        WebFinder x = new WebFinder();
+        Finder x = new Finder();
         DUE.is("start without seeds", x.start(), 0);
         DUE.is("clock", x.clock(), 0);
         DUE.is("step", x.step(), -1);
@@ -112,7 +112,7 @@ public final class CrawlTest {
     }
 
     private static void order() {
-        WebFinder x = new WebFinder();
+        Finder x = new Finder();
         Due.page(x, 200, "http://a/1", links("3", "//b/", "2"));
         Due.page(x, 301, "http://a/2", "4");
         Due.page(x, 200, "http://a/3", links("5", "1"));
@@ -144,7 +144,7 @@ public final class CrawlTest {
     }
 
     private static void depths() {
-        WebFinder x = new WebFinder();
+        Finder x = new Finder();
         for (int i = 0; i < 6; i++) {
             Due.page(x, 200, "http://a/" + i, links("" + (i + 1)));
         }
@@ -162,7 +162,7 @@ public final class CrawlTest {
     }
 
     private static void lessDepthLater() {
-        WebFinder x = new WebFinder();
+        Finder x = new Finder();
         Due.page(x, 200, "http://a/", links("p", "r", "q"));
         Due.page(x, 200, "http://a/p", links("t"));
         Due.page(x, 302, "http://a/r", "t");
@@ -190,7 +190,7 @@ public final class CrawlTest {
     }
 
     private static void chains() {
-        WebFinder x = new WebFinder();
+        Finder x = new Finder();
         for (int i = 0; i < 6; i++) {
             Due.page(x, 301, "http://a/" + i, "" + (i + 1));
         }
@@ -212,7 +212,7 @@ public final class CrawlTest {
     }
 
     private static void leadsOn() {
-        WebFinder x = new WebFinder();
+        Finder x = new Finder();
         Due.page(x, 300, "http://a/0", " //b/x#y \r\nmore\n");
         Due.page(x, 399, "http://a/1", "");
         Due.page(x, 301, "http://a/2", "x y");
@@ -235,7 +235,7 @@ public final class CrawlTest {
     }
 
     private static void rulesOnTheWay() {
-        WebFinder x = new WebFinder();
+        Finder x = new Finder();
         Due.page(x, 200, "http://a/", links("x", "y"));
         Due.rules(x, "http://a/", "user-agent: finder\ndisallow: /x");
         Due.seed(x, "http://a/");
@@ -252,7 +252,7 @@ public final class CrawlTest {
     }
 
     private static void rests() {
-        WebFinder x = new WebFinder();
+        Finder x = new Finder();
         Due.page(x, 200, "http://a/", links("x", "//a:8/", "//b/", "y", "//b/z"));
         Due.seed(x, "http://a/");
         x.set(2, 5);
@@ -274,7 +274,7 @@ public final class CrawlTest {
     }
 
     private static void savesAndCrashes() {
-        WebFinder x = new WebFinder();
+        Finder x = new Finder();
         Due.page(x, 200, "http://a/", links("b", "c", "d", "//e/"));
         Due.page(x, 200, "http://a/b", links("f"));
         Due.page(x, 301, "http://a/c", "g");
@@ -321,7 +321,7 @@ public final class CrawlTest {
     }
 
     private static void crashForgets() {
-        WebFinder x = new WebFinder();
+        Finder x = new Finder();
         Due.page(x, 200, "http://a/", links("b", "c"));
         Due.seed(x, "http://a/");
         x.start();
@@ -347,7 +347,7 @@ public final class CrawlTest {
     }
 
     private static void textOfThen() {
-        WebFinder x = new WebFinder();
+        Finder x = new Finder();
         Due.page(x, 200, "http://a/", links("b"));
         Due.page(x, 200, "http://a/b", "one");
         Due.seed(x, "http://a/");
@@ -372,7 +372,7 @@ public final class CrawlTest {
     }
 
     private static void knowsAtMost() {
-        WebFinder x = new WebFinder();
+        Finder x = new Finder();
         for (int k = 0; k < 5; k++) {
             Due.page(x, 200, "http://a/x" + k, sixty(60 * k));
             Due.seed(x, "http://a/x" + k);
@@ -395,7 +395,7 @@ public final class CrawlTest {
     }
 
     private static void askingsAtMost() {
-        WebFinder x = new WebFinder();
+        Finder x = new Finder();
         Due.page(x, 200, "http://a/", sixty(10));
         Due.seed(x, "http://a/");
         x.set(2, 0);
@@ -418,7 +418,7 @@ public final class CrawlTest {
     }
 
     private static void readsOfWhatIsNone() {
-        WebFinder x = new WebFinder();
+        Finder x = new Finder();
         Due.seed(x, "http://a/b");
         x.start();
         x.step();

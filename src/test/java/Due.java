@@ -4,12 +4,24 @@ import java.nio.charset.StandardCharsets;
 final class Due {
     private int wrong = 0;
     private int asked = 0;
+    private int sentences = 0;
+    private String sentence = "";
+
+    /** What comes next is asked for by this sentence of the document. */
+    void of(String sentenceOfTheDocument) {
+        sentences++;
+        sentence = sentenceOfTheDocument;
+    }
+
+    private void wrong(String what) {
+        wrong++;
+        System.out.println(what + (sentence.isEmpty() ? "" : " by: " + sentence));
+    }
 
     void is(String call, long got, long want) {
         asked++;
         if (got != want) {
-            wrong++;
-            System.out.println(call + " answered " + got + ", due is " + want);
+            wrong(call + " answered " + got + ", due is " + want);
         }
     }
 
@@ -20,20 +32,31 @@ final class Due {
     void is(String call, String got, String want) {
         asked++;
         if (!got.equals(want)) {
-            wrong++;
-            System.out.println(call + " made '" + got + "', due is '" + want + "'");
+            wrong(call + " made '" + got + "', due is '" + want + "'");
         }
     }
 
+    /** That the call throws such an exception, and not another one. */
+    void fails(String call, Class<? extends RuntimeException> with, Runnable run) {
+        String got = "nothing";
+        try {
+            run.run();
+        } catch (RuntimeException e) {
+            got = e.getClass().getSimpleName();
+        }
+        is(call + " throwing", got, with.getSimpleName());
+    }
+
     void end(String test) {
-        System.out.println(test + ": " + asked + " answers, " + wrong + " of them wrong");
+        String of = sentences == 0 ? "" : " of " + sentences + " sentences";
+        System.out.println(test + ": " + asked + " answers" + of + ", " + wrong + " of them wrong");
         if (wrong != 0 || asked == 0) {
             System.exit(1);
         }
     }
 
     /** The tape is empty before; its bytes are those of the text then. */
-    static void tape(WebFinder x, String text) {
+    static void tape(Finder x, String text) {
         byte[] bytes = text.getBytes(StandardCharsets.ISO_8859_1);
         for (int i = 0; i < bytes.length; i += 20) {
             x.feed(word(bytes, i), word(bytes, i + 4), word(bytes, i + 8), word(bytes, i + 12), word(bytes, i + 16));
@@ -49,63 +72,76 @@ final class Due {
         return word;
     }
 
-    static String product(WebFinder x) {
+    static String product(Finder x) {
         StringBuilder text = new StringBuilder();
-        for (int i = 0; i < x.made(); i++) {
+        int made = x.made();
+        for (int i = 0; i < made; i++) {
             text.append((char) x.out(i));
         }
         return text.toString();
     }
 
-    static String read(WebFinder x, String base, String reference) {
+    static String read(Finder x, String base, String reference) {
         tape(x, base + "\n" + reference);
         x.read();
         return product(x);
     }
 
-    static int page(WebFinder x, int status, String address, String text) {
+    static int page(Finder x, int status, String address, String text) {
         tape(x, address + "\n" + text);
         return x.page(status);
     }
 
-    static boolean drop(WebFinder x, String address) {
+    static boolean drop(Finder x, String address) {
         tape(x, address);
         return x.drop();
     }
 
-    static int rules(WebFinder x, String address, String text) {
+    static int rules(Finder x, String address, String text) {
         tape(x, address + "\n" + text);
         return x.rules();
     }
 
-    static int allowed(WebFinder x, String address) {
+    static int allowed(Finder x, String address) {
         tape(x, address);
         return x.allowed();
     }
 
-    /** The product's lines, with a , behind each. */
-    static String look(WebFinder x, int what, String address, String text) {
-        tape(x, address + "\n" + text);
-        x.look(what);
-        return product(x).replace('\n', ',');
+    /**
+     * The product's lines, with a , behind each; of as many new objects as it takes to read it whole with the calls that
+     * one has.
+     */
+    static String look(int what, String address, String text) {
+        StringBuilder product = new StringBuilder();
+        int made;
+        do {
+            Finder x = new Finder();
+            tape(x, address + "\n" + text);
+            x.look(what);
+            made = x.made();
+            for (int i = product.length(); i < made && x.callsLeft() > 0; i++) {
+                product.append((char) x.out(i));
+            }
+        } while (product.length() < made);
+        return product.toString().replace('\n', ',');
     }
 
-    static int seed(WebFinder x, String address) {
+    static int seed(Finder x, String address) {
         tape(x, address);
         return x.seed();
     }
 
-    static int ask(WebFinder x, int mode, String question) {
+    static int ask(Finder x, int mode, String question) {
         tape(x, question);
         return x.ask(mode);
     }
 
-    static String address(WebFinder x, int i) {
-        return x.address(i) == WebFinder.NONE ? "none" : product(x);
+    static String address(Finder x, int i) {
+        return x.address(i) == Finder.NONE ? "none" : product(x);
     }
 
     /** Each number with a blank behind it. */
-    static String states(WebFinder x) {
+    static String states(Finder x) {
         StringBuilder text = new StringBuilder();
         for (int i = 0; i < x.count(2); i++) {
             text.append(x.known(i, 0)).append(' ');

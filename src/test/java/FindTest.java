@@ -16,8 +16,8 @@ public final class FindTest {
         DUE.end("FindTest");
     }
 
-    private static WebFinder crawled(String... pages) {
-        WebFinder x = new WebFinder();
+    private static Finder crawled(String... pages) {
+        Finder x = new Finder();
         x.set(2, 0);
         for (int i = 0; i < pages.length; i += 2) {
             Due.page(x, 200, "http://a/" + pages[i], pages[i + 1]);
@@ -29,7 +29,7 @@ public final class FindTest {
     }
 
     /** What is told of a document, each with a blank behind it. */
-    private static String told(WebFinder x, int d) {
+    private static String told(Finder x, int d) {
         StringBuilder text = new StringBuilder();
         for (int what = 0; what < 6; what++) {
             text.append(x.document(d, what)).append(' ');
@@ -38,16 +38,16 @@ public final class FindTest {
     }
 
     /** Hits and their scores. */
-    private static String hits(WebFinder x) {
+    private static String hits(Finder x) {
         StringBuilder text = new StringBuilder();
-        for (int i = 0; x.hit(i) != WebFinder.NONE; i++) {
+        for (int i = 0; x.hit(i) != Finder.NONE; i++) {
             text.append(x.hit(i)).append(':').append(x.score(i)).append(' ');
         }
         return text.toString();
     }
 
     private static void refusals() {
-        WebFinder x = new WebFinder();
+        Finder x = new Finder();
         DUE.is("no crawl", x.find(0), -1);
         Due.page(x, 200, "http://a/", "red");
         Due.seed(x, "http://a/");
@@ -78,7 +78,7 @@ public final class FindTest {
     }
 
     private static void copies() {
-        WebFinder x = crawled("z", "one", "c", "two", "b/", "one", "b", "one", "B", "three", "a", "two");
+        Finder x = crawled("z", "one", "c", "two", "b/", "one", "b", "one", "B", "three", "a", "two");
         DUE.is("find", x.find(0), 3);
         DUE.is("B", told(x, 0), "4 333333 0 0 0 1 ");
         DUE.is("a with c", told(x, 1), "5 333333 0 0 1 1 ");
@@ -98,7 +98,7 @@ public final class FindTest {
     }
 
     private static void ranks() {
-        WebFinder x = crawled("a", "<a href=b><a href=c>", "b", "<a href=c>1", "c", "<a href=a>2");
+        Finder x = crawled("a", "<a href=b><a href=c>", "b", "<a href=c>1", "c", "<a href=a>2");
         DUE.is("find(0)", x.find(0), 3);
         DUE.is("a", x.document(0, 1), 333333);
         x.find(1);
@@ -118,7 +118,7 @@ public final class FindTest {
 
     /** A chain of 21 that lead on, all linked by a hub; from its first one it is a step too far. */
     private static void leadsByChains() {
-        WebFinder x = new WebFinder();
+        Finder x = new Finder();
         StringBuilder hub = new StringBuilder();
         for (int i = 0; i <= 20; i++) {
             char name = (char) ('A' + i);
@@ -145,11 +145,11 @@ public final class FindTest {
     }
 
     private static void leadsOncePerOther() {
-        WebFinder x = crawled("a", "<a href=a><a href=b><a href=c><a href=?x><a href=d>", "b", "same", "c", "same");
+        Finder x = crawled("a", "<a href=a><a href=b><a href=c><a href=?x><a href=d>", "b", "same", "c", "same");
         DUE.is("find", x.find(1), 2);
         DUE.is("a", told(x, 0), "0 75000 1 0 0 0 ");
         DUE.is("b", told(x, 1), "1 500000 0 1 1 1 ");
-        WebFinder deep = new WebFinder();
+        Finder deep = new Finder();
         Due.page(deep, 200, "http://a/", "<a href=b>");
         Due.page(deep, 200, "http://a/b", "<a href=c>");
         Due.page(deep, 200, "http://a/c", "");
@@ -162,7 +162,7 @@ public final class FindTest {
     }
 
     private static void modes() {
-        WebFinder x = crawled("a", "red sky red", "b", "sky red tree sky red", "c", "tree", "d", "red red red");
+        Finder x = crawled("a", "red sky red", "b", "sky red tree sky red", "c", "tree", "d", "red red red");
         x.find(0);
         DUE.is("any", Due.ask(x, 0, "red"), 3);
         DUE.is("any", hits(x), "3:750000 0:500000 1:500000 ");
@@ -191,7 +191,7 @@ public final class FindTest {
     }
 
     private static void questions() {
-        WebFinder x = crawled("a", "one two<b>three four five six seven eight nine abcdefghijklmnopqrstu", "b", "amp nine lt");
+        Finder x = crawled("a", "one two<b>three four five six seven eight nine abcdefghijklmnopqrstu", "b", "amp nine lt");
         x.find(0);
         for (int mode = 0; mode < 3; mode++) {
             DUE.is("no words", Due.ask(x, mode, " ,<>"), 0);
@@ -209,7 +209,7 @@ public final class FindTest {
     }
 
     private static void hitOrder() {
-        WebFinder x = crawled("a", "red", "b", "red <a href=c>", "c", "red red", "d", "red,");
+        Finder x = crawled("a", "red", "b", "red <a href=c>", "c", "red red", "d", "red,");
         x.find(1);
         DUE.is("b's rank goes to c", x.document(2, 1), 250000);
         DUE.is("ask", Due.ask(x, 0, "red"), 4);
@@ -225,7 +225,7 @@ public final class FindTest {
     }
 
     private static void staysWhateverComes() {
-        WebFinder x = crawled("a", "red", "b", "blue");
+        Finder x = crawled("a", "red", "b", "blue");
         DUE.is("before find", Due.ask(x, 0, "red"), 0);
         x.find(0);
         Due.ask(x, 0, "red");
@@ -249,7 +249,7 @@ public final class FindTest {
     }
 
     private static void noDocuments() {
-        WebFinder x = new WebFinder();
+        Finder x = new Finder();
         x.start();
         DUE.is("find", x.find(50), 0);
         DUE.is("ask", Due.ask(x, 0, "a"), 0);

@@ -20,16 +20,16 @@ public final class PagesTest {
     }
 
     private static void links(String text, String want) {
-        String got = Due.look(new WebFinder(), 0, "http://h/p/q", text);
+        String got = Due.look(0, "http://h/p/q", text);
         DUE.is("links of " + text, got.replace("http://h/p/", "~"), want);
     }
 
     private static void words(String text, String want) {
-        DUE.is("words of " + text, Due.look(new WebFinder(), 1, "http://h/p/q", text), want);
+        DUE.is("words of " + text, Due.look(1, "http://h/p/q", text), want);
     }
 
     private static void pages() {
-        WebFinder x = new WebFinder();
+        Finder x = new Finder();
         DUE.is("first", Due.page(x, 200, "http://a/", "x"), 1);
         DUE.is("again", Due.page(x, 404, "HTTP://A:80", "y"), 1);
         DUE.is("second", Due.page(x, 100, "http://a/?", ""), 2);
@@ -46,7 +46,7 @@ public final class PagesTest {
     }
 
     private static void pageLimits() {
-        WebFinder x = new WebFinder();
+        Finder x = new Finder();
         for (int i = 0; i < 60; i++) {
             DUE.is("page " + i, Due.page(x, 200, "http://a/" + i, ""), i + 1);
         }
@@ -60,7 +60,7 @@ public final class PagesTest {
     }
 
     private static void drops() {
-        WebFinder x = new WebFinder();
+        Finder x = new Finder();
         DUE.is("none", Due.drop(x, "http://a/"), false);
         Due.page(x, 200, "http://a/", "");
         Due.page(x, 200, "http://b/", "");
@@ -191,7 +191,7 @@ public final class PagesTest {
                 want.append("~").append(i).append(",");
             }
         }
-        WebFinder x = new WebFinder();
+        Finder x = new Finder();
         links(text.toString(), want.toString());
         Due.tape(x, "http://h/\n" + text);
         DUE.is("how many", x.look(0), 60);
@@ -206,7 +206,7 @@ public final class PagesTest {
     }
 
     private static void refusals() {
-        WebFinder x = new WebFinder();
+        Finder x = new Finder();
         Due.read(x, "http://h/", "x");
         Due.tape(x, "x\n<a href=y>");
         DUE.is("nothing", x.look(0), -1);
@@ -231,7 +231,7 @@ public final class PagesTest {
         String text = "a&amp;b&#x41;<!-- c --><!d></e f='g'><a href = \"h&lt;\" i=j/k>l<script m>n</script >o<base href='p'><?q>&#9;<a r";
         for (int length = 0; length <= text.length(); length++) {
             String cut = text.substring(0, length);
-            WebFinder x = new WebFinder();
+            Finder x = new Finder();
             Due.page(x, 200, "http://a/", cut);
             Due.page(x, 301, "http://b/", cut);
             Due.rules(x, "http://c/", cut);

@@ -6,7 +6,7 @@ public final class RandomRunsTest {
     private static final Due DUE = new Due();
 
     private final Random random;
-    private final WebFinder x = new WebFinder();
+    private final Finder x = new Finder(Integer.MAX_VALUE);
     private final Model m = new Model();
     private final String name;
 

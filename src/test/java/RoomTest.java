@@ -6,7 +6,6 @@ import java.lang.management.ManagementFactory;
  */
 public final class RoomTest {
     private static final Due DUE = new Due();
-    private static final int CALLS = 512;
     private static final String NAMES = "ABCDEFGHIJKLMNOPQRSTUVWXYZabcdefghijklmnopqrstuvwxyz01234567";
 
     public static void main(String[] args) {
@@ -18,7 +17,7 @@ public final class RoomTest {
     }
 
     private interface Run {
-        void on(WebFinder x);
+        void on(Finder x);
     }
 
     private static long madeSoFar() {
@@ -26,16 +25,16 @@ public final class RoomTest {
     }
 
     private static void isSmall(String name, Run run) {
-        run.on(new WebFinder());
+        run.on(new Finder());
         long before = madeSoFar();
-        run.on(new WebFinder());
+        run.on(new Finder());
         long made = madeSoFar() - before;
         System.out.println(name + ": " + made + " bytes");
         DUE.is(name + " stays below 2,000,000 bytes", made < 2000000, true);
     }
 
-    private static void calls(WebFinder x) {
-        for (int i = 0; i < CALLS / 4; i++) {
+    private static void calls(Finder x) {
+        for (int i = 0; x.callsLeft() >= 2; i++) {
             x.feed(0x68747470, 0x3a2f2f61 + i % 20, 0x2f0a3c61, 0x20687265, 0x663d783e);
             switch (i % 8) {
                 case 0:
@@ -67,7 +66,7 @@ public final class RoomTest {
     }
 
     /** A web whose addresses are as long as they can be, with as many links as there can be. */
-    private static void tellWeb(WebFinder x) {
+    private static void tellWeb(Finder x) {
         String folder = "http://" + "h".repeat(60) + "/" + "p".repeat(129) + "/";
         for (int page = 0; page < 5; page++) {
             StringBuilder text = new StringBuilder();
@@ -80,28 +79,28 @@ public final class RoomTest {
         x.set(3, 50);
     }
 
-    private static void crawls(WebFinder x) {
+    private static void crawls(Finder x) {
         tellWeb(x);
-        for (int i = 0; i < CALLS / 4; i++) {
+        while (x.callsLeft() >= 2) {
             x.start();
             x.run(1000);
         }
     }
 
-    private static void crashes(WebFinder x) {
+    private static void crashes(Finder x) {
         tellWeb(x);
         x.start();
-        for (int i = 0; i < CALLS / 4; i++) {
+        while (x.callsLeft() >= 2) {
             x.run(49);
             x.crash();
         }
     }
 
-    private static void finds(WebFinder x) {
+    private static void finds(Finder x) {
         tellWeb(x);
         x.start();
         x.run(1000);
-        for (int i = 0; i < CALLS / 4; i++) {
+        for (int i = 0; x.callsLeft() >= 2; i++) {
             x.find(50);
             x.ask(i % 3);
         }

@@ -13,12 +13,12 @@ public final class RulesTest {
     }
 
     private static void holds(String text, int want) {
-        DUE.is("rules " + text, Due.rules(new WebFinder(), "http://s/", text), want);
+        DUE.is("rules " + text, Due.rules(new Finder(), "http://s/", text), want);
     }
 
     /** One rule disallow with that pattern. */
     private static void matches(String pattern, String path, boolean want) {
-        WebFinder x = new WebFinder();
+        Finder x = new Finder();
         Due.rules(x, "http://s/", "user-agent: *\ndisallow: " + pattern);
         DUE.is(pattern + " for " + path, Due.allowed(x, "http://s" + path), want ? 0 : 1);
     }
@@ -91,7 +91,7 @@ public final class RulesTest {
     }
 
     private static void longest() {
-        WebFinder x = new WebFinder();
+        Finder x = new Finder();
         Due.rules(x, "http://s/", "user-agent: *\nallow: /a\ndisallow: /a\ndisallow: /ab\nallow: /ab*\ndisallow: /c\nallow: /%63");
         DUE.is("as long: the allow", Due.allowed(x, "http://s/a"), 1);
         DUE.is("longer: the allow with *", Due.allowed(x, "http://s/ab"), 1);
@@ -105,7 +105,7 @@ public final class RulesTest {
     }
 
     private static void sites() {
-        WebFinder x = new WebFinder();
+        Finder x = new Finder();
         String no = "user-agent: *\ndisallow: /";
         DUE.is("rules of s", Due.rules(x, "http://s/x?y", no), 1);
         DUE.is("allowed", Due.allowed(x, "http://S:80/y"), 0);
@@ -123,7 +123,7 @@ public final class RulesTest {
     }
 
     private static void refusals() {
-        WebFinder x = new WebFinder();
+        Finder x = new Finder();
         DUE.is("no bytes", x.rules(), -1);
         DUE.is("nothing", Due.rules(x, "/x", "user-agent: *\ndisallow: /"), -1);
         DUE.is("the tape", x.end(0), 0);
