@@ -1433,8 +1433,8 @@ public final class WebFinder {
             addresses.cut(savedSize);
             copyMarks(savedMarks, marks);
             askingsSinceSaved = 0;
+            // Later than each asking so far, so that none of these counts any more.
             crashClock = clock;
-            Arrays.fill(askedAt, NONE);
         }
 
         private void copyMarks(int[][] from, int[][] to) {

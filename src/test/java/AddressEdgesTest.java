@@ -444,8 +444,18 @@ public final class AddressEdgesTest {
         DUE.of("ORDER of addresses: byte by byte, the shorter one first if the other begins with it.");
         String[] ordered = {"a-/", "a./", "a/", "a/!", "a/-", "a/0", "a/?", "a/?0", "a/A", "a/Z", "a/_", "a/a", "a/a/",
             "a/aa", "a/~", "a0/", "a:1/", "aa/"};
+        // Steps that go through all of them, up, down and to and fro.
+        for (int step : new int[] {1, ordered.length - 1, 5, 7, 11}) {
+            isOrdered(ordered, step);
+        }
+    }
+
+    private static void isOrdered(String[] ordered, int step) {
         Finder x = new Finder();
-        for (int i = ordered.length - 1; i >= 0; i--) {
+        int[] numbers = new int[ordered.length];
+        for (int number = 0; number < ordered.length; number++) {
+            int i = (number + 1) * step % ordered.length;
+            numbers[i] = number;
             Due.page(x, 200, "http://" + ordered[i], "" + i);
             Due.seed(x, "http://" + ordered[i]);
         }
@@ -453,7 +463,7 @@ public final class AddressEdgesTest {
         x.run(100);
         DUE.is("find", x.find(0), ordered.length);
         for (int d = 0; d < ordered.length; d++) {
-            DUE.is("number of " + ordered[d], x.document(d, 0), ordered.length - 1 - d);
+            DUE.is("number of " + ordered[d], x.document(d, 0), numbers[d]);
             DUE.is("where " + d, x.where(d), 7 + ordered[d].length());
             DUE.is("last byte", x.out(6 + ordered[d].length()), ordered[d].charAt(ordered[d].length() - 1));
         }

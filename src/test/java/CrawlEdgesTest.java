@@ -26,6 +26,7 @@ public final class CrawlEdgesTest {
         leastFirst();
         notAllowed();
         rests();
+        restsOfSites();
         statuses();
         firstLines();
         leadsOnAndIsNotKnown();
@@ -331,6 +332,7 @@ public final class CrawlEdgesTest {
         DUE.is("5 and 240", x.count(2), 245);
         x.run(1);
         DUE.is("and 5 more of 60", x.count(2), 250);
+        DUE.is("waiting", x.count(3), 245);
         DUE.is("the last", Due.address(x, 249), "http://a/244");
         DUE.is("its state", x.known(249, 0), 1);
         DUE.is("behind the last", x.address(250), -1);
@@ -383,6 +385,7 @@ public final class CrawlEdgesTest {
         DUE.is("full", x.count(2), 250);
         x.crash();
         DUE.is("one was saved", x.count(2), 1);
+        DUE.is("and waits", x.count(3), 1);
         DUE.is("behind it there is none", x.address(1), -1);
         Due.page(x, 200, "http://a/", "<a href=new>");
         x.step();
@@ -500,6 +503,22 @@ public final class CrawlEdgesTest {
             DUE.is("clock", x.clock(), due[rest - 2] + 1);
             x.step();
             DUE.is("another port is another site", x.asking(4, 0), due[rest - 2] + 1);
+        }
+    }
+
+    private static void restsOfSites() {
+        DUE.of("if its site was asked before");
+        Finder x = new Finder();
+        for (String seed : new String[] {"ab/", "a:8/", "a.b/", "a/", "a:80/x", "a:80/", "ab/?", "a.b/y"}) {
+            Due.seed(x, "http://" + seed);
+        }
+        x.set(2, 100);
+        x.start();
+        x.run(9);
+        int[] due = {0, 1, 2, 3, 103, 104, 105};
+        DUE.is("askings: one of the seeds was there twice", x.count(4), 7);
+        for (int k = 0; k < 7; k++) {
+            DUE.is("asking " + k, x.asking(k, 0), due[k]);
         }
     }
 

@@ -38,6 +38,7 @@ public final class FindEdgesTest {
         hitsNone();
         hitsEndWithFind();
         untilTheNextFind();
+        findAgain();
         greatScores();
         DUE.end("FindEdgesTest");
     }
@@ -608,6 +609,27 @@ public final class FindEdgesTest {
         DUE.is("the next one", x.find(0), 0);
         DUE.is("documents", x.document(0, 0), -1);
         asks(x, 0, "red", "");
+    }
+
+    private static void findAgain() {
+        DUE.of("Documents of what the crawl knows");
+        Finder x = crawled("a", "red <a href=b><a href=c>", "b", "blue", "c", "blue", "d", "<a href=b>");
+        for (int times = 0; times < 3; times++) {
+            DUE.is("find", x.find(0), 3);
+            DUE.is("a", told(x, 0), "0 333333 1 0 0 1 ");
+            DUE.is("b", told(x, 1), "1 333333 0 2 1 1 ");
+            DUE.is("d", told(x, 2), "3 333333 1 0 0 0 ");
+            asks(x, 0, "blue", "1:333333 ");
+        }
+        x.noSeeds();
+        Due.seed(x, "http://a/b");
+        x.start();
+        x.run(9);
+        DUE.is("less documents", x.find(0), 1);
+        DUE.is("b", told(x, 0), "0 1000000 0 0 0 1 ");
+        DUE.is("the others are none", x.document(1, 0), -1);
+        asks(x, 0, "red", "");
+        asks(x, 0, "blue", "0:1000000 ");
     }
 
     private static void greatScores() {

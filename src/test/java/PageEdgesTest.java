@@ -419,6 +419,10 @@ public final class PageEdgesTest {
             links("<a href='x&" + name + "y;'>", "~x&" + name + "y;,");
             links("<a href='x&" + name.toUpperCase() + ";'>", "~x&" + name.toUpperCase() + ";,");
             links("<a href='x&" + name.substring(1) + ";'>", "~x&" + name.substring(1) + ";,");
+            for (int i = 0; i < name.length(); i++) {
+                String other = name.substring(0, i) + "x" + name.substring(i + 1);
+                links("<a href='x&" + other + ";'>", "~x&" + other + ";,");
+            }
             words("a&" + name + ";b", "a,b,");
             words("a&" + name, "a," + name + ",");
             words("a&" + name + " ;b", "a," + name + ",b,");

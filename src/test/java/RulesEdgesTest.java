@@ -21,6 +21,7 @@ public final class RulesEdgesTest {
         ends();
         begins();
         longest();
+        manyPatterns();
         rulesCounted();
         ruleLines();
         rulesOfTheLine();
@@ -54,6 +55,10 @@ public final class RulesEdgesTest {
         DUE.is("allowed", Due.allowed(x, "http://s/"), 1);
         DUE.is("told empty ones", Due.rules(x, "http://s/", ""), 0);
         DUE.is("allowed", Due.allowed(x, "http://s/x"), 1);
+        DUE.is("told an allow, too", Due.rules(x, "http://s/", ALL + "disallow: /\nallow: /x"), 2);
+        DUE.is("allowed", Due.allowed(x, "http://s/x"), 1);
+        DUE.is("told none", Due.rules(x, "http://s/", ALL + "disallow: /"), 1);
+        DUE.is("not allowed", Due.allowed(x, "http://s/x"), 0);
     }
 
     private static void hashes() {
@@ -151,6 +156,10 @@ public final class RulesEdgesTest {
         holds(ALL + "sitemap: /x\nuser-agent: x\nallow: /a", 1);
         holds(ALL + "# x\nno colon\n\r\nuser-agent: x\n\nallow: /a\n\nsitemap: y\nallow: /b", 2);
         holds(ALL + "allow /a\nuser-agent: x\nallow: /b", 1);
+        holds(ALL + "allow\nuser-agent: x\nallow: /b", 1);
+        holds(ALL + "disallow#:\nuser-agent: x\nallow: /b", 1);
+        holds(ALL + "allow: /a\nuser-agent\nallow: /b", 2);
+        holds(ALL + "allow: /a\nuser-agent # : x\nallow: /b", 2);
         holds(ALL + "allow: /a\nsitemap: /x\nallow: /b", 2);
     }
 
@@ -311,6 +320,20 @@ public final class RulesEdgesTest {
         allows(ALL + "disallow: /ab\nallow: /%2f", "/ab", false);
         allows(ALL + "disallow: /aaaa\nallow: /b", "/b", true);
         allows(ALL + "disallow: /a\ndisallow: /a\nallow: /a\ndisallow: /a", "/a", true);
+    }
+
+    private static void manyPatterns() {
+        DUE.of("or an allow is among those of the longest patterns (in bytes) that match.");
+        String text = ALL + "disallow: /x\ndisallow: /abc$\ndisallow: /a*d\ndisallow: /e*f$\n"
+            + "allow: /y\nallow: /abcd*e\nallow: /e*ff$";
+        String[] not = {"/x", "/abc", "/ad", "/a/bd", "/ef", "/e/f", "/abcd"};
+        String[] all = {"/", "/y", "/abc?", "/ab", "/abcde", "/abcd/de", "/a", "/e", "/efg", "/eff", "/e/ff"};
+        for (String path : not) {
+            allows(text, path, false);
+        }
+        for (String path : all) {
+            allows(text, path, true);
+        }
     }
 
     private static void rulesCounted() {

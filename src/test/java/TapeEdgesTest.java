@@ -12,6 +12,7 @@ public final class TapeEdgesTest {
         feedBeyond8000();
         feedThatThrows();
         endCuts();
+        bytesBehindTheEnd();
         endThatThrows();
         usesOfTheTape();
         refusedUsesOfTheTape();
@@ -140,6 +141,37 @@ public final class TapeEdgesTest {
         DUE.is("end(1)", x.end(1), 20);
         DUE.is("end(0)", x.end(0), 1);
         DUE.is("end(0)", x.end(0), 0);
+    }
+
+    /** What a call answers to a tape that was cut, and what it made. */
+    private static String answer(int call, String text, int n, boolean moreBehind) {
+        Finder x = new Finder();
+        Due.tape(x, moreBehind ? text : text.substring(0, n));
+        x.end(n);
+        return switch (call) {
+            case 0 -> x.read() + " " + Due.product(x);
+            case 1 -> x.look(0) + " " + Due.product(x);
+            case 2 -> x.look(1) + " " + Due.product(x);
+            case 3 -> x.rules() + " " + Due.allowed(x, "http://h/a") + Due.allowed(x, "http://h/");
+            case 4 -> x.allowed() + "";
+            default -> x.seed() + " " + x.start() + " " + Due.address(x, 0);
+        };
+    }
+
+    private static void bytesBehindTheEnd() {
+        DUE.of("The tape has only its first n bytes.");
+        String[] texts = {"http://h:8080/%41?%42#x", "http://h/\n//k:81/%2e%2e/x%7ey?z", "http://h/\n../a/..",
+            "http://h/\na<!--b--><a href='x'></c><script>d</script>&amp;&#65;&#x41;<a href=y >",
+            "http://h/\n<base href=r/><a href = \"x\"><?p><!q></ ><style></style ><a href>",
+            "http://h/\nuser-agent: finder\nallow: /a%41\ndisallow: /*$", "http://h/\nuser-agent: *\ndisallow:/a*b\r\n#x"};
+        for (String text : texts) {
+            for (int n = 0; n <= text.length(); n++) {
+                for (int call = 0; call < 6; call++) {
+                    String name = "call " + call + " with " + n + " bytes of " + text;
+                    DUE.is(name, answer(call, text, n, true), answer(call, text, n, false));
+                }
+            }
+        }
     }
 
     private static void endThatThrows() {
