@@ -341,14 +341,26 @@ public final class RefusalsTest {
         x.end(7981);
     }
 
+    /** What few calls can see, none of which changes anything. */
+    private static String glance(Finder x) {
+        StringBuilder s = new StringBuilder("clock " + x.clock() + " made " + x.made() + " last " + x.out(9));
+        for (int what = 0; what < 5; what++) {
+            s.append(' ').append(x.count(what)).append(' ').append(x.known(0, what));
+        }
+        return s.append(" found ").append(x.document(0, 1)).append(' ').append(x.hit(0)).append(' ').append(x.score(0)).toString();
+    }
+
+    /** Few calls are left where a tape was filled, and none at all in the states that take many themselves. */
     private static void feedThatThrows(String state, Consumer<Finder> bring) {
         Finder x = new Finder();
         bring.accept(x);
-        if (x.callsLeft() < 420) {
+        if (x.callsLeft() < 445) {
             return;
         }
         fillTape(x);
+        String before = glance(x);
         DUE.is(state + ": feed", "" + thrownBy(() -> x.feed(1, 2, 3, 4, 5)), "IllegalStateException");
+        DUE.is(state + ": behind feed", glance(x), before);
         DUE.is(state + ": the tape", x.end(7981), 7981);
         DUE.is(state + ": the tape has blanks alone, and is nothing", x.seed(), -1);
         DUE.is(state + ": the tape", x.end(0), 0);
