@@ -241,6 +241,8 @@ public final class CrawlEdgesTest {
             DUE.is("count", x.count(1), 1);
         }
         DUE.is("blanks at both ends", Due.seed(x, " //A:80#x\r\n"), 2);
+        DUE.is("one that is there already is one more all the same", Due.seed(x, "http://b"), 3);
+        DUE.is("count", x.count(1), 3);
         DUE.is("start", x.start(), 2);
         DUE.is("address", Due.address(x, 1), "http://a/");
     }
