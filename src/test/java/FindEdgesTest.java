@@ -17,6 +17,7 @@ public final class FindEdgesTest {
         twentySteps();
         comesToNone();
         leadsToOthers();
+        leadsOnceToEach();
         leadsByTheDocumentsAddress();
         leadsByTheFirstSixty();
         ranks();
@@ -298,6 +299,15 @@ public final class FindEdgesTest {
         DUE.is("rank of 2: all of what 1 gives", x.document(1, 1), 50000 + 283333);
         DUE.is("4: not to its own copy", x.document(2, 2), 0);
         DUE.is("4: not led to by its own copy", x.document(2, 3), 0);
+    }
+
+    private static void leadsOnceToEach() {
+        DUE.of("A document LEADS TO those others to which the links of its text (read as a page of its address) come.");
+        Finder x = found("a/1", "<a href=2><a href=3><a href=4>", "a/2", "x<a href=1><a href=3><a href=4>",
+            "a/3", "y<a href=1><a href=2>", "a/4", "y<a href=1><a href=2>");
+        DUE.is("1, to 2 and once to 3", told(x, 0), "0 333333 2 2 0 0 ");
+        DUE.is("2, to 1 and once to 3", told(x, 1), "1 333333 2 2 0 1 ");
+        DUE.is("3, of which 4 is a copy", told(x, 2), "2 333333 2 2 1 1 ");
     }
 
     private static void leadsByTheDocumentsAddress() {

@@ -257,6 +257,10 @@ public final class PageEdgesTest {
         links("<a href=x", "");
         links("<a", "");
         links("<aa href=x><base2 href=y><a-b href=x>", "");
+        // A = or a quote in a name is of the name, so the > behind it ends the tag.
+        words("a<b='>c'>d", "a,c,d,");
+        words("a</b='>c'>d", "a,c,d,");
+        words("a</b x='>c'>d", "a,d,");
         links("<BASE href=r/><A href=x>", "~r/x,");
     }
 
