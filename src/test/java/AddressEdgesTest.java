@@ -28,6 +28,7 @@ public final class AddressEdgesTest {
         queries();
         mostBytes();
         bytesCountedAtLast();
+        asLongAsTheTape();
         basesThatAreNothing();
         productOfRead();
         order();
@@ -404,6 +405,23 @@ public final class AddressEdgesTest {
         reads("x#" + "y".repeat(500), "http://h/a/x");
         reads(" ".repeat(500) + "x", "http://h/a/x");
         reads("//k:00080/" + "p".repeat(191), "http://k/" + "p".repeat(191));
+    }
+
+    private static void asLongAsTheTape() {
+        DUE.of("It is nothing if these are more than 200 bytes.");
+        for (int length : new int[] {1000, 3000, 7900}) {
+            String bytes = "x".repeat(length);
+            reads(bytes, "");
+            reads("/" + bytes, "");
+            reads("?" + bytes, "");
+            reads("//" + bytes, "");
+            reads("//k/" + bytes, "");
+            reads("//k?" + bytes, "");
+            reads(bytes + ":", "");
+            reads("/" + bytes + "/../y", "http://h/y");
+            reads(bytes + "/.././y?z", "http://h/a/y?z");
+            reads("y#" + bytes, "http://h/a/y");
+        }
     }
 
     private static void basesThatAreNothing() {

@@ -40,6 +40,7 @@ public final class FindEdgesTest {
         hitsEndWithFind();
         untilTheNextFind();
         findAgain();
+        findFewer();
         greatScores();
         DUE.end("FindEdgesTest");
     }
@@ -619,6 +620,22 @@ public final class FindEdgesTest {
         DUE.is("the next one", x.find(0), 0);
         DUE.is("documents", x.document(0, 0), -1);
         asks(x, 0, "red", "");
+    }
+
+    private static void findFewer() {
+        DUE.of("Documents, ranks and hits are of this, until the next call that is not NONE, whatever comes.");
+        Finder x = crawled("a", "red", "b", "blue <a href=a>", "c", "green <a href=a>", "d", "green <a href=b>");
+        DUE.is("find", x.find(2), 4);
+        x.noSeeds();
+        Due.seed(x, "http://a/a");
+        Due.seed(x, "http://a/b");
+        x.start();
+        x.run(1000);
+        DUE.is("find fewer", x.find(2), 2);
+        DUE.is("a: c gives it nothing now", told(x, 0), "0 138750 0 1 0 1 ");
+        DUE.is("b: d gives it nothing now", told(x, 1), "1 75000 1 0 0 1 ");
+        DUE.is("c is none", told(x, 2), "-1 -1 -1 -1 -1 -1 ");
+        asks(x, 0, "green blue", "1:75000 ");
     }
 
     private static void findAgain() {

@@ -20,17 +20,32 @@ public final class RandomRunsTest {
         int from = args.length > 1 ? Integer.parseInt(args[1]) : 0;
         for (int seed = from; seed < from + runs; seed++) {
             RandomRunsTest run = new RandomRunsTest(seed);
-            if (seed % 4 == 0) {
-                run.readAddresses();
-            } else if (seed % 4 == 1) {
-                run.lookAtPages();
-            } else if (seed % 4 == 2) {
-                run.obeyRules();
-            } else {
-                run.crawl();
-            }
+            run.go(seed % 6);
         }
         DUE.end("RandomRunsTest");
+    }
+
+    private void go(int kind) {
+        switch (kind) {
+            case 0:
+                readAddresses();
+                break;
+            case 1:
+                lookAtPages();
+                break;
+            case 2:
+                obeyRules();
+                break;
+            case 3:
+                crawl();
+                break;
+            case 4:
+                crawlAgain();
+                break;
+            default:
+                crawlFar();
+                break;
+        }
     }
 
     // ---- what is random
@@ -225,6 +240,105 @@ public final class RandomRunsTest {
             }
         }
         sameState();
+    }
+
+    /** Crawls one behind the other through a web that changes, so that less is known and found than before, too. */
+    private void crawlAgain() {
+        for (int i = 5 + random.nextInt(20); i > 0; i--) {
+            tellPage();
+        }
+        for (int crawls = 0; crawls < 8; crawls++) {
+            changeTheWeb();
+            changeSeeds();
+            same("start", x.start(), m.start());
+            for (int parts = random.nextInt(6); parts > 0; parts--) {
+                int most = random.nextInt(9);
+                same("run " + most, x.run(most), m.run(most));
+                if (seldom(3)) {
+                    same("crash", x.crash() ? 1 : 0, m.crash() ? 1 : 0);
+                }
+                if (seldom(3)) {
+                    changeTheWeb();
+                }
+            }
+            findAll();
+            sameState();
+        }
+    }
+
+    private void changeTheWeb() {
+        for (int changes = random.nextInt(4); changes > 0; changes--) {
+            if (seldom(3)) {
+                tape(goodAddress());
+                same("drop", x.drop() ? 1 : 0, m.drop() ? 1 : 0);
+            } else {
+                tellPage();
+            }
+        }
+        if (seldom(6)) {
+            tape(goodAddress() + "\nuser-agent: *\n" + several(2, this::ruleLine));
+            same("rules", x.rules(), m.rules());
+        }
+        if (seldom(3)) {
+            int setting = random.nextInt(4);
+            int value = random.nextInt(6);
+            same("set", x.set(setting, value) ? 1 : 0, m.set(setting, value) ? 1 : 0);
+        }
+    }
+
+    private void changeSeeds() {
+        if (seldom(2)) {
+            x.noSeeds();
+            m.seeds.clear();
+        }
+        for (int more = 1 + random.nextInt(4); more > 0; more--) {
+            tape(goodAddress());
+            same("seed", x.seed(), m.seed());
+        }
+    }
+
+    private void findAll() {
+        same("run", x.run(1000), m.run(1000));
+        int rounds = random.nextInt(seldom(3) ? 51 : 3);
+        same("find " + rounds, x.find(rounds), m.find(rounds));
+        for (int mode = 0; mode < 3; mode++) {
+            tape(several(4, this::word));
+            same("ask " + mode, x.ask(mode), m.ask(mode));
+        }
+    }
+
+    /** So many links, and so long ones, that some go beyond what a crawl can know. */
+    private void crawlFar() {
+        int names = 100 + random.nextInt(500);
+        String longName = "z".repeat(random.nextInt(170));
+        int pages = 10 + random.nextInt(50);
+        for (int i = 0; i < pages; i++) {
+            boolean leads = seldom(4);
+            String address = "http://" + one("a", "b.c", "d:8") + "/" + (seldom(2) ? random.nextInt(30) : random.nextInt(names));
+            String text = leads ? farReference(names, longName)
+                : several(65, () -> "<a href='" + farReference(names, longName) + "'>" + word());
+            tape(address + "\n" + text);
+            same("page " + address, x.page(leads ? 302 : 200), m.page(leads ? 302 : 200));
+        }
+        same("set", x.set(0, 20) ? 1 : 0, m.set(0, 20) ? 1 : 0);
+        for (int i = 0; i < 5; i++) {
+            tape("http://a/" + i);
+            same("seed", x.seed(), m.seed());
+        }
+        same("start", x.start(), m.start());
+        for (int parts = random.nextInt(9); parts > 0; parts--) {
+            int most = random.nextInt(60);
+            same("run " + most, x.run(most), m.run(most));
+            same("crash", x.crash() ? 1 : 0, m.crash() ? 1 : 0);
+        }
+        sameState();
+        findAll();
+        sameState();
+    }
+
+    private String farReference(int names, String longName) {
+        String s = one("", "", "//a", "//b.c", "//d:8", "//e") + "/" + (seldom(2) ? random.nextInt(30) : random.nextInt(names));
+        return seldom(8) ? s + "/" + longName : s;
     }
 
     private void callOne() {
