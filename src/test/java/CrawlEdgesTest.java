@@ -27,6 +27,7 @@ public final class CrawlEdgesTest {
         notAllowed();
         rests();
         restsOfSites();
+        shortSitesBesideLongOnes();
         statuses();
         firstLines();
         leadsOnAndIsNotKnown();
@@ -521,6 +522,28 @@ public final class CrawlEdgesTest {
         DUE.is("askings: one of the seeds was there twice", x.count(4), 7);
         for (int k = 0; k < 7; k++) {
             DUE.is("asking " + k, x.asking(k, 0), due[k]);
+        }
+    }
+
+    /** The last address known is asked for before a far longer one; seeds before it have any number of bytes in all. */
+    private static void shortSitesBesideLongOnes() {
+        DUE.of("if its site was asked before");
+        String site = "http://" + "h".repeat(60) + "/";
+        for (int length = 9; length <= 200; length++) {
+            Finder x = new Finder();
+            Due.page(x, 200, "http://a/", "<a href=" + site + ">");
+            Due.page(x, 301, "http://b/r", "http://c/");
+            Due.seed(x, "http://a/");
+            Due.seed(x, "http://b/r");
+            for (int i = 0; i < 4; i++) {
+                Due.seed(x, "http://" + i + "/" + "x".repeat(191));
+            }
+            Due.seed(x, "http://d/" + "x".repeat(length - 9));
+            x.start();
+            DUE.is("steps", x.run(100), 9);
+            DUE.is("the one that was known last", x.asking(7, 1), 9);
+            DUE.is("then the long one", x.asking(8, 1), site.length());
+            DUE.is("which need not rest", x.asking(8, 0), 8);
         }
     }
 
